@@ -4,6 +4,7 @@ public final class FoundTest {
         rulesAreFound();
         leastHelpersThenRule();
         noneAgree();
+        firstOfAllIsWrong();
         wholeness();
         worksAreTheSeenOnes();
         eightAndNine();
@@ -90,6 +91,24 @@ public final class FoundTest {
         x.seen(1, 0, 5, 6);
         x.seen(0, 0, 6, 8);
         finds("the greater number ahead, for it was shorter", x, 0, 1, 2);
+    }
+
+    /** By each rule another one was to be begun ahead of ask 0; the others alone are begun by rule 0. */
+    private static void firstOfAllIsWrong() {
+        QueueReader x = new QueueReader();
+        x.place(1, 0, 0);
+        x.ask(3, 2, 0, 9);
+        x.ask(1, 1, 0, 2);
+        x.ask(0, 3, 0, 1);
+        x.ask(0, 0, 0, 10);
+        x.seen(3, 0, 0, 10);
+        x.seen(0, 0, 10, 19);
+        x.seen(1, 0, 19, 21);
+        x.seen(2, 0, 21, 22);
+        finds("ask 0 was begun too early", x, 0, -1, -1);
+        x.seen(0, 0, 12, 21);
+        x.seen(1, 0, 10, 12);
+        finds("ask 0 was begun by rule 0", x, 0, 1, 0);
     }
 
     private static void wholeness() {

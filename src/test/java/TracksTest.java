@@ -86,6 +86,9 @@ public final class TracksTest {
         Due.answer("10: nothing seen", 0, x::unlike);
         seen(x, 0, 0, 0, 4);
         Due.answer("10: alike", 0, x::unlike);
+        seen(x, 0, 0, 1, 4);
+        Due.answer("10: the first of all", 1, x::unlike);
+        seen(x, 0, 0, 0, 4);
         seen(x, 0, 1, 6, 10);
         Due.answer("10: done at another tick", 1, x::unlike);
         seen(x, 0, 1, 5, 9);
