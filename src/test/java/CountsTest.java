@@ -3,9 +3,6 @@ public final class CountsTest {
     public static void main(String[] args) {
         byPlay();
         byTracks();
-        oddTracks();
-        greatSums();
-        wrongCalls();
         Due.end();
     }
 
@@ -68,61 +65,5 @@ public final class CountsTest {
         counts("tracks, at the tick", x, true, 13, 14, 1, 0, 1, 0);
         x.unsee(2, 0);
         counts("tracks, it is not known when it came", x, true, 0, 100, 1, 1, 4, 4);
-    }
-
-    private static void oddTracks() {
-        QueueReader x = new QueueReader();
-        x.place(1, 0, 0);
-        x.ask(0, 50, 0, 4);
-        x.seen(0, 0, 10, 20);
-        counts("tracks, done before it came", x, true, 0, 100, 1, 1, 0, 10);
-        x.seen(0, 0, 40, 60);
-        counts("tracks, begun before it came", x, true, 0, 100, 1, 1, 10, 20);
-        x.seen(0, 0, 50, 10000000);
-        counts("tracks, done at the greatest tick", x, true, 0, 10000000, 1, 0, 9999950, 9999950);
-    }
-
-    private static void greatSums() {
-        QueueReader x = new QueueReader();
-        x.place(8, 0, 0);
-        for (int i = 0; i < 60; i++) {
-            x.ask(0, 0, 0, 1);
-            for (int s = 1; s < 5; s++) {
-                x.step(i, 0, 1);
-            }
-            for (int s = 0; s < 5; s++) {
-                x.seen(i, s, 0, s == 4 ? 10000000 : s + 1);
-            }
-        }
-        Due.answer("13: a sum over an int", 60L * 10000000L + 60L * (1 + 2 + 3 + 4),
-                () -> x.counts(0, true, 0, 10000000, 3));
-        for (int i = 0; i < 60; i++) {
-            for (int s = 0; s < 4; s++) {
-                x.seen(i, s, 0, 10000000);
-            }
-        }
-        Due.answer("13: a sum over an int for good", 300L * 10000000L, () -> x.counts(0, true, 0, 10000000, 3));
-    }
-
-    private static void wrongCalls() {
-        QueueReader x = twoAsks();
-        int[] places = {-1, 2, 5, Integer.MIN_VALUE, Integer.MAX_VALUE};
-        int[][] spans = {{-1, 4}, {5, 4}, {0, -1}, {-2, -1}, {0, 10000001}, {10000001, 10000001},
-            {Integer.MIN_VALUE, Integer.MAX_VALUE}};
-        int[] whats = {-1, 4, Integer.MIN_VALUE, Integer.MAX_VALUE};
-        for (int i = 0; i < 2; i++) {
-            boolean tracks = i == 1;
-            for (int place : places) {
-                Due.noIndex("13: the place first", () -> x.counts(place, tracks, 0, 1, 0));
-                Due.noIndex("13: the place first of all", () -> x.counts(place, tracks, 5, 4, 4));
-            }
-            for (int[] s : spans) {
-                Due.noArgument("13: span " + s[0] + " " + s[1], () -> x.counts(0, tracks, s[0], s[1], 0));
-                Due.noArgument("13: the span ahead of the what", () -> x.counts(0, tracks, s[0], s[1], 4));
-            }
-            for (int what : whats) {
-                Due.noElement("13: what " + what, () -> x.counts(0, tracks, 0, 1, what));
-            }
-        }
     }
 }

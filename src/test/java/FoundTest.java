@@ -7,10 +7,8 @@ public final class FoundTest {
         firstOfAllIsWrong();
         wholeness();
         worksAreTheSeenOnes();
-        eightAndNine();
         oneAskTwiceAtOnce();
         overlaps();
-        wrongPlaces();
         Due.end();
     }
 
@@ -155,22 +153,6 @@ public final class FoundTest {
         finds("not the last any more, but the shortest", x, 0, 1, 2);
     }
 
-    private static void eightAndNine() {
-        QueueReader x = new QueueReader();
-        x.place(8, 0, 0);
-        for (int i = 0; i < 8; i++) {
-            x.ask(0, 0, 0, 10);
-            x.seen(i, 0, 0, 10);
-        }
-        finds("eight at once", x, 0, 8, 0);
-        x.ask(0, 3, 0, 10);
-        x.seen(8, 0, 10, 20);
-        finds("the ninth waited", x, 0, 8, 0);
-        x.seen(8, 0, 3, 20);
-        finds("nine at once are too many", x, 0, -1, -1);
-        Due.answer("12: nine at once", 9, () -> x.overlap(0));
-    }
-
     /** Tracks may tell that an ask's later step came ahead of the earlier one: the least step is first. */
     private static void oneAskTwiceAtOnce() {
         QueueReader x = new QueueReader();
@@ -213,16 +195,5 @@ public final class FoundTest {
         Due.answer("12: and nothing to this one", 3, () -> x.overlap(0));
         x.unsee(0, 1);
         Due.answer("12: one less", 2, () -> x.overlap(0));
-    }
-
-    private static void wrongPlaces() {
-        QueueReader x = new QueueReader();
-        x.place(1, 0, 0);
-        int[] wrong = {-1, 1, 4, 5, Integer.MIN_VALUE, Integer.MAX_VALUE};
-        for (int place : wrong) {
-            Due.noIndex("11: place " + place, () -> x.found(place, false));
-            Due.noIndex("11: place " + place, () -> x.found(place, true));
-            Due.noIndex("12: place " + place, () -> x.overlap(place));
-        }
     }
 }

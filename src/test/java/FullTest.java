@@ -42,7 +42,7 @@ public final class FullTest {
                     () -> x.counts(0, true, 0, 1000, 2));
             Due.answer("16: narrow", 0, x::narrow);
             Due.answer("17: alone", 50, () -> x.alone(59));
-            Due.answer("7: the last", 1, () -> x.unsee(59, 4) ? 1 : 0);
+            Due.answer("7: the last", 1, () -> Calls.unsee(x, 59, 4));
             Due.answer("7: is not seen", 299, () -> x.count(3));
             Due.answer("11: not whole", -1, () -> x.found(0, true));
             x.seen(59, 4, 9999999, 10000000);

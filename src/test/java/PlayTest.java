@@ -6,7 +6,6 @@ public final class PlayTest {
         sameTick();
         helpersAndReturns();
         greatNumbers();
-        wrongCalls();
         Due.end();
     }
 
@@ -99,32 +98,8 @@ public final class PlayTest {
     private static void greatNumbers() {
         QueueReader x = new QueueReader();
         x.place(1, 0, 1000);
-        for (int i = 0; i < 60; i++) {
-            x.ask(3, 100000, 0, 1000);
-            for (int s = 1; s < 5; s++) {
-                x.step(i, 0, 1000);
-            }
-        }
+        Sample.fill(x, 60, 100000, 1000);
         times("the first of all", x, 0, 0, 100000, 100000, 101000);
         times("the last of all", x, 59, 4, 341000, 399000, 400000);
-    }
-
-    private static void wrongCalls() {
-        QueueReader x = new QueueReader();
-        Due.noIndex("8: no asks", () -> x.played(0, 0, 0));
-        x.place(1, 0, 0);
-        x.ask(0, 0, 0, 1);
-        x.ask(0, 0, 0, 1);
-        x.step(1, 0, 1);
-        int[][] wrong = {{-1, 0}, {2, 0}, {60, 0}, {0, 1}, {0, -1}, {1, 2}, {1, 5}, {1, -5},
-            {Integer.MAX_VALUE, 0}, {0, Integer.MIN_VALUE}};
-        for (int[] w : wrong) {
-            Due.noIndex("8: " + w[0] + " " + w[1], () -> x.played(w[0], w[1], 0));
-            Due.noIndex("8: the step ahead of the what", () -> x.played(w[0], w[1], 3));
-        }
-        int[] whats = {-1, 3, 4, Integer.MIN_VALUE, Integer.MAX_VALUE};
-        for (int what : whats) {
-            Due.noElement("8: what " + what, () -> x.played(0, 0, what));
-        }
     }
 }

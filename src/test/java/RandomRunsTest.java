@@ -173,10 +173,7 @@ public final class RandomRunsTest {
 
     private void change(int place, int helpers, int rule, int delay) {
         check("change(" + place + ", " + helpers + ", " + rule + ", " + delay + ")",
-                () -> {
-                    reader.change(place, helpers, rule, delay);
-                    return 0;
-                },
+                () -> Calls.change(reader, place, helpers, rule, delay),
                 () -> {
                     oracle.change(place, helpers, rule, delay);
                     return 0;
@@ -195,10 +192,7 @@ public final class RandomRunsTest {
 
     private void seen(int ask, int step, int begun, int done) {
         check("seen(" + ask + ", " + step + ", " + begun + ", " + done + ")",
-                () -> {
-                    reader.seen(ask, step, begun, done);
-                    return 0;
-                },
+                () -> Calls.seen(reader, ask, step, begun, done),
                 () -> {
                     oracle.seen(ask, step, begun, done);
                     return 0;
@@ -207,7 +201,7 @@ public final class RandomRunsTest {
 
     private void unsee(int ask, int step) {
         check("unsee(" + ask + ", " + step + ")",
-                () -> reader.unsee(ask, step) ? 1 : 0, () -> oracle.unsee(ask, step) ? 1 : 0);
+                () -> Calls.unsee(reader, ask, step), () -> oracle.unsee(ask, step) ? 1 : 0);
     }
 
     private void played(int ask, int step, int what) {

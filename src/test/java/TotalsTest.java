@@ -3,13 +3,9 @@ public final class TotalsTest {
     public static void main(String[] args) {
         totals();
         savings();
-        ninthHelper();
         slowerWithMore();
-        slowerEverywhere();
-        narrowTies();
         aloneTicks();
         countsOfAll();
-        wrongCalls();
         Due.end();
     }
 
@@ -48,20 +44,6 @@ public final class TotalsTest {
         Due.answer("16: narrow is place 0", 0, x::narrow);
     }
 
-    private static void ninthHelper() {
-        QueueReader x = new QueueReader();
-        x.place(8, 0, 0);
-        for (int i = 0; i < 9; i++) {
-            x.ask(0, 0, 0, 6);
-        }
-        Due.answer("14: one waits for eight", 8 * 6 + 12, x::total);
-        Due.answer("15: the ninth helper", 6, () -> x.saved(0));
-        Due.noArgument("15: that a place cannot have", () -> {
-            x.change(0, 9, 0, 0);
-            return 0;
-        });
-    }
-
     private static void slowerWithMore() {
         QueueReader x = new QueueReader();
         x.place(1, 0, 0);
@@ -79,38 +61,6 @@ public final class TotalsTest {
         Due.answer("16: the least loss is the most saved", 1, x::narrow);
         x.place(1, 0, 0);
         Due.answer("16: nothing saved is more than a loss", 2, x::narrow);
-    }
-
-    private static void slowerEverywhere() {
-        QueueReader x = new QueueReader();
-        x.place(1, 3, 3);
-        x.place(1, 1, 1);
-        x.ask(3, 3, 1, 8);
-        x.ask(0, 3, 0, 7);
-        x.ask(1, 3, 0, 3);
-        x.step(2, 1, 7);
-        x.ask(0, 5, 1, 4);
-        x.step(3, 0, 8);
-        Due.answer("14: total", 54, x::total);
-        Due.answer("15: place 0", -2, () -> x.saved(0));
-        Due.answer("15: place 1", -2, () -> x.saved(1));
-        Due.answer("16: of two losses alike the least number", 0, x::narrow);
-    }
-
-    private static void narrowTies() {
-        QueueReader x = new QueueReader();
-        Due.answer("16: no places", -1, x::narrow);
-        for (int i = 0; i < 5; i++) {
-            x.place(1, 0, 0);
-        }
-        Due.answer("16: no asks", 0, x::narrow);
-        for (int place = 4; place >= 2; place--) {
-            x.ask(0, 0, place, 3);
-            x.ask(0, 0, place, 3);
-        }
-        Due.answer("16: of several alike the least number", 2, x::narrow);
-        x.ask(0, 0, 4, 1);
-        Due.answer("16: the last saves most", 4, x::narrow);
     }
 
     private static void aloneTicks() {
@@ -158,17 +108,6 @@ public final class TotalsTest {
         int[] wrong = {-1, 5, 6, Integer.MIN_VALUE, Integer.MAX_VALUE};
         for (int what : wrong) {
             Due.answer("18: what " + what, -1, () -> x.count(what));
-        }
-    }
-
-    private static void wrongCalls() {
-        QueueReader x = new QueueReader();
-        x.place(1, 0, 0);
-        x.ask(0, 0, 0, 1);
-        int[] wrong = {-1, 1, 5, 60, Integer.MIN_VALUE, Integer.MAX_VALUE};
-        for (int number : wrong) {
-            Due.noIndex("15: place " + number, () -> x.saved(number));
-            Due.noIndex("17: ask " + number, () -> x.alone(number));
         }
     }
 }

