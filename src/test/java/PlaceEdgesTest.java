@@ -147,13 +147,13 @@ public final class PlaceEdgesTest {
         Due.answer("2: five stay", 5, () -> x.count(0));
         Due.noIndex("2: there is no place 5", () -> x.ask(0, 0, 5, 1));
         Due.noIndex("2: to change place 5", () -> Calls.change(x, 5, 1, 0, 0));
-        Due.answer("2: place 0 can be gone to", 0, () -> x.ask(0, 0, 0, 1));
+        Due.answer("2: place 4 can be gone to", 0, () -> x.ask(0, 0, 4, 1));
         for (int i = 1; i < 5; i++) {
-            int place = i;
-            Due.answer("2: and place " + i, i, () -> x.step(0, place, 1));
+            int place = 4 - i;
+            Due.answer("2: and place " + place, i, () -> x.step(0, place, 1));
         }
-        Due.answer("2: each has its own delay", 5 + 0 + 10 + 20 + 30, () -> x.alone(0));
-        Due.answer("2: by play, too", 65, () -> x.count(4));
+        Due.answer("2: each has its own delay", 5 + 40 + 30 + 20 + 10, () -> x.alone(0));
+        Due.answer("2: by play, too", 105, () -> x.count(4));
     }
 
     private static void leastAndMostOfChange() {
