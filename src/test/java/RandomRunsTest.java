@@ -52,7 +52,8 @@ public final class RandomRunsTest {
                 ask(random.nextInt(4), random.nextInt(2 * span), aPlace(), work());
             }
         } else if (draw < 27) {
-            step(anAsk(), aPlace(), work());
+            // Ask 0 is the one that gets 5 steps often, and then no more.
+            step(random.nextBoolean() ? 0 : anAsk(), aPlace(), work());
         } else if (draw < 38) {
             seenCall();
         } else if (draw < 41) {
@@ -163,7 +164,7 @@ public final class RandomRunsTest {
     }
 
     private int aStep() {
-        return random.nextInt(14) / 5;
+        return Math.min(random.nextInt(6), random.nextInt(6));
     }
 
     private void place(int helpers, int rule, int delay) {
